@@ -17,6 +17,9 @@ public final class PollTest {
         lostRuns();
         rejectedTogether();
         favouriteBehindRejection();
+        favouriteGoesBackToTheFirst();
+        parentsFirst();
+        likedOnly();
         rejectedWhenHeld();
         firstOfASetRejected();
         pollAboutARejectedOne();
@@ -285,6 +288,80 @@ public final class PollTest {
         setDue(node, 0, 1, 4, better, better, 0);
         CHECKS.same("a rejected one keeps its chit", 1, node.look(loser.id(), 2));
         CHECKS.same("the favourite is strong", 1, node.query(better.id()));
+    }
+
+    private static void favouriteGoesBackToTheFirst() {
+        SnowNode node = fresh(1, 2);
+        Row first = spendOf(1, 1000000);
+        Row loser = Row.under(0).spends(0, 1, 0, 0).pays(2000000);
+        Row second = spendOf(1, 999999, 1);
+        Row winner = spendOf(0, 1000000);
+        for (Row row : new Row[] {first, loser, second, winner}) {
+            row.take(node);
+            node.poll();
+        }
+        say(node, 1, true);
+        say(node, 3, true);
+        setDue(node, 0, 1, 3, loser, loser, 1);
+        polled(node, Row.under(winner.id()).spends(winner.id(), 0).pays(1000000), true);
+        stateDue(node, "the loser", loser, REJECTED);
+        setDue(node, 0, 1, 3, first, loser, 0);
+        CHECKS.same("the first is strong again", 1, node.query(first.id()));
+    }
+
+    /** A child whose own sets are ready waits for each of its parents. */
+    private static void parentsFirst() {
+        for (int place = 0; place < 2; place++) {
+            SnowNode node = fresh(1, 3);
+            Row slow = spendOf(0, 1000000);
+            Row quick = spendOf(1, 1000000);
+            slow.take(node);
+            spendOf(0, 999999, 1).take(node);
+            node.poll();
+            node.poll();
+            polled(node, quick, true);
+            stateDue(node, "the quick parent", quick, ACCEPTED);
+            int[] parents = place == 0 ? new int[] {slow.id(), quick.id()} : new int[] {quick.id(), slow.id()};
+            Row child = Row.under(parents).spends(0, 2).pays(1000000);
+            polled(node, child, true);
+            setDue(node, 0, 2, 1, child, child, 1);
+            stateDue(node, "the child of a held one", child, HELD);
+            say(node, 0, true);
+            stateDue(node, "the slow parent at a run of 2", slow, HELD);
+            polled(node, Row.under(child.id()).spends(0, 3).pays(1000000), true);
+            stateDue(node, "the slow parent at a run of 3", slow, ACCEPTED);
+            stateDue(node, "the child with it", child, ACCEPTED);
+            CHECKS.same("the parent is accepted first", slow.id(), node.listed(1, 2));
+            CHECKS.same("the child is accepted next", child.id(), node.listed(1, 3));
+        }
+    }
+
+    /** The latest with a run that is long enough is not accepted while another one is favourite. */
+    private static void likedOnly() {
+        SnowNode node = fresh(2, 2);
+        Row a = spendOf(0, 250000, 250000, 250000, 250000);
+        Row b = spendOf(0, 500000, 500000);
+        a.take(node);
+        b.take(node);
+        node.poll();
+        node.poll();
+        say(node, 0, true);
+        polled(node, Row.under(a.id()).spends(a.id(), 0).pays(250000), false);
+        polled(node, Row.under(a.id()).spends(a.id(), 1).pays(250000), true);
+        polled(node, Row.under(a.id()).spends(a.id(), 2).pays(250000), false);
+        polled(node, Row.under(a.id()).spends(a.id(), 3).pays(250000), true);
+        setDue(node, 0, 0, 2, a, a, 1);
+        say(node, 1, true);
+        polled(node, Row.under(b.id()).spends(b.id(), 0).pays(500000), true);
+        setDue(node, 0, 0, 2, a, b, 2);
+        stateDue(node, "b, not the favourite", b, HELD);
+        polled(node, Row.under(b.id()).spends(b.id(), 1).pays(500000), true);
+        setDue(node, 0, 0, 2, a, b, 3);
+        stateDue(node, "b, as good as the favourite", b, HELD);
+        polled(node, Row.under(b.id()).spends(0, 1).pays(1000000), true);
+        setDue(node, 0, 0, 2, b, b, 4);
+        stateDue(node, "b, the favourite", b, ACCEPTED);
+        stateDue(node, "a", a, REJECTED);
     }
 
     private static void rejectedWhenHeld() {
