@@ -6,6 +6,12 @@ final class Checks {
 
     private int wrong = 0;
     private int made = 0;
+    private String prefix = "";
+
+    /** What is found wrong from here on is told with the name of its case. */
+    void begin(String caseName) {
+        prefix = caseName + ": ";
+    }
 
     void due(String call, Object want, Call made) {
         same(call, want, answerOf(made));
@@ -15,7 +21,7 @@ final class Checks {
         made++;
         if (!want.equals(got)) {
             wrong++;
-            System.out.println(what + " answered " + got + ", due is " + want);
+            System.out.println(prefix + what + " answered " + got + ", due is " + want);
         }
     }
 
@@ -30,6 +36,10 @@ final class Checks {
 
     int wrong() {
         return wrong;
+    }
+
+    int made() {
+        return made;
     }
 
     void finish(String name) {

@@ -54,9 +54,18 @@ final class Row {
     }
 
     static int idOf(byte[] bytes) {
+        byte[] hash = hashOf(bytes);
+        return (hash[0] & 127) << 24 | (hash[1] & 255) << 16 | (hash[2] & 255) << 8 | hash[3] & 255;
+    }
+
+    /** The bit of the hash that no ID has. */
+    static boolean firstBit(byte[] bytes) {
+        return hashOf(bytes)[0] < 0;
+    }
+
+    private static byte[] hashOf(byte[] bytes) {
         try {
-            byte[] hash = MessageDigest.getInstance("SHA-256").digest(bytes);
-            return (hash[0] & 127) << 24 | (hash[1] & 255) << 16 | (hash[2] & 255) << 8 | hash[3] & 255;
+            return MessageDigest.getInstance("SHA-256").digest(bytes);
         } catch (NoSuchAlgorithmException e) {
             throw new AssertionError(e);
         }
