@@ -48,8 +48,8 @@ public final class Promise03Test {
     static void p03_refusedFeedLeavesTheBytes(Checks checks) {
         SnowNode node = Nodes.quick(1, 1);
         Row.feed(node, ROW.bytes());
-        while (node.count(9) < 128) {
-            node.feed(-1);
+        for (int i = 4; i < 32; i++) {
+            checks.same("feed no. " + i, true, node.feed(-1));
         }
         checks.same("feed behind 128", false, node.feed(0x55555555));
         checks.same("feed behind 128 again", false, node.feed(-1));

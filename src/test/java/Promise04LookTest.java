@@ -83,11 +83,13 @@ public final class Promise04LookTest {
         Row rejected = Nodes.spend(0, 999999, 1);
         Nodes.win(node, accepted);
         taken(checks, node, "a rival of an accepted one", REJECTED, rejected);
-        taken(checks, node, "a child of an accepted one", HELD, Row.under(accepted.id()).spends(accepted.id(), 0).pays(1000000));
+        taken(checks, node, "a child of an accepted one", HELD,
+                Row.under(accepted.id()).spends(accepted.id(), 0).pays(1000000));
         Row child = Row.under(rejected.id()).spends(rejected.id(), 1).pays(1);
         taken(checks, node, "a child of a rejected one", REJECTED, child);
         checks.same("ancestors of that", 2, node.look(child.id(), 4));
-        taken(checks, node, "a bad child of a rejected one", BAD, Row.under(rejected.id()).spends(rejected.id(), 1).pays(2));
+        taken(checks, node, "a bad child of a rejected one", BAD,
+                Row.under(rejected.id()).spends(rejected.id(), 1).pays(2));
     }
 
     // Two the same
@@ -111,7 +113,8 @@ public final class Promise04LookTest {
         for (int[] inputs : twins) {
             taken(checks, node, "twins", BAD, Row.under(0).spends(inputs).pays(inputs.length / 2 * 1000000));
         }
-        taken(checks, node, "the same ID, other indexes", HELD, Row.under(0).spends(0, 3, 0, 4, 0, 5, 0, 6).pays(4000000));
+        taken(checks, node, "the same ID, other indexes", HELD,
+                Row.under(0).spends(0, 3, 0, 4, 0, 5, 0, 6).pays(4000000));
     }
 
     static void p04_inputsWithTheSameIndexOfOthers(Checks checks) {
@@ -121,7 +124,8 @@ public final class Promise04LookTest {
         taken(checks, node, "the same index, other IDs", HELD, Row.under(a.id()).spends(a.id(), 0, 0, 1).pays(2000000));
         Row b = Nodes.spend(2, 1000000);
         b.take(node);
-        taken(checks, node, "index 0 of both", HELD, Row.under(a.id(), b.id()).spends(a.id(), 0, b.id(), 0).pays(2000000));
+        taken(checks, node, "index 0 of both", HELD,
+                Row.under(a.id(), b.id()).spends(a.id(), 0, b.id(), 0).pays(2000000));
     }
 
     // Inputs
@@ -160,7 +164,8 @@ public final class Promise04LookTest {
         taken(checks, node, "one of a waiting one", BAD, Row.under(a.id()).spends(waiting.id(), 0).pays(1000000));
         taken(checks, node, "one of a bad one", BAD, Row.under(a.id()).spends(bad.id(), 0).pays(5));
         taken(checks, node, "one of an unknown one", BAD, Row.under(a.id()).spends(77, 0).pays(1000000));
-        taken(checks, node, "a right one and one of a sibling", BAD, Row.under(0).spends(0, 2, a.id(), 0).pays(2000000));
+        taken(checks, node, "a right one and one of a sibling", BAD,
+                Row.under(0).spends(0, 2, a.id(), 0).pays(2000000));
     }
 
     static void p04_inputThatAnAncestorHas(Checks checks) {
@@ -170,7 +175,8 @@ public final class Promise04LookTest {
         Nodes.takeAll(node, a, b);
         taken(checks, node, "the parent's", BAD, Row.under(a.id()).spends(0, 0).pays(1000000));
         taken(checks, node, "the grandparent's", BAD, Row.under(b.id()).spends(0, 0).pays(1000000));
-        taken(checks, node, "the parent's beside others", BAD, Row.under(0, b.id()).spends(0, 1, a.id(), 0).pays(1600000));
+        taken(checks, node, "the parent's beside others", BAD,
+                Row.under(0, b.id()).spends(0, 1, a.id(), 0).pays(1600000));
         taken(checks, node, "a sibling's", HELD, Row.under(a.id()).spends(a.id(), 0).pays(599999, 1));
         taken(checks, node, "one that nobody has", HELD, Row.under(b.id()).spends(a.id(), 1).pays(400000));
     }
@@ -193,9 +199,12 @@ public final class Promise04LookTest {
         taken(checks, node, "1 too little", BAD, Nodes.spend(0, 999999));
         taken(checks, node, "as much", HELD, Nodes.spend(0, 1000000));
         taken(checks, node, "1 too much", BAD, Nodes.spend(0, 1000001));
-        taken(checks, node, "1 too little of four", BAD, Row.under(0).spends(0, 1, 0, 2, 0, 3, 0, 4).pays(1, 2, 3, 3999993));
-        taken(checks, node, "as much of four", HELD, Row.under(0).spends(0, 1, 0, 2, 0, 3, 0, 4).pays(1, 2, 3, 3999994));
-        taken(checks, node, "1 too much of four", BAD, Row.under(0).spends(0, 1, 0, 2, 0, 3, 0, 4).pays(1, 2, 3, 3999995));
+        taken(checks, node, "1 too little of four", BAD,
+                Row.under(0).spends(0, 1, 0, 2, 0, 3, 0, 4).pays(1, 2, 3, 3999993));
+        taken(checks, node, "as much of four", HELD,
+                Row.under(0).spends(0, 1, 0, 2, 0, 3, 0, 4).pays(1, 2, 3, 3999994));
+        taken(checks, node, "1 too much of four", BAD,
+                Row.under(0).spends(0, 1, 0, 2, 0, 3, 0, 4).pays(1, 2, 3, 3999995));
     }
 
     /** 4000000000 is more than an int holds, and no wrap-around makes it right. */
@@ -279,7 +288,7 @@ public final class Promise04LookTest {
 
     static void p04_longChainThatWaits(Checks checks) {
         SnowNode node = Nodes.quick(1, 1);
-        Row[] chain = new Row[60];
+        Row[] chain = new Row[96];
         chain[0] = Nodes.spend(0, 1000000);
         for (int i = 1; i < chain.length; i++) {
             chain[i] = Row.under(chain[i - 1].id()).spends(chain[i - 1].id(), 0).pays(1000000);
@@ -287,12 +296,15 @@ public final class Promise04LookTest {
         for (int i = chain.length - 1; i > 0; i--) {
             chain[i].take(node);
         }
-        checks.same("waiting", 59, node.count(1));
+        checks.same("waiting", 95, node.count(1));
         chain[0].take(node);
         checks.same("waiting behind the first", 0, node.count(1));
-        checks.same("held", 61, node.count(2));
-        checks.same("ancestors of the last", 60, node.look(chain[59].id(), 4));
-        checks.same("those under the genesis", 60, node.look(0, 5));
+        checks.same("held", 97, node.count(2));
+        for (int i = 0; i < chain.length; i += 19) {
+            checks.same("ancestors of no. " + i, i + 1, node.look(chain[i].id(), 4));
+            checks.same("those under no. " + i, 95 - i, node.look(chain[i].id(), 5));
+        }
+        checks.same("those under the genesis", 96, node.look(0, 5));
     }
 
     // Rejected when held

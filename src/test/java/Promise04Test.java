@@ -157,7 +157,8 @@ public final class Promise04Test {
 
     static void p04_oneToFourParents(Checks checks) {
         for (int many = 1; many <= 4; many++) {
-            taken(checks, many + " parents", Row.under(Arrays.copyOf(new int[] {1, 2, 3, 4}, many)).spends(0, 0).pays(1));
+            taken(checks, many + " parents",
+                    Row.under(Arrays.copyOf(new int[] {1, 2, 3, 4}, many)).spends(0, 0).pays(1));
         }
     }
 
@@ -186,7 +187,8 @@ public final class Promise04Test {
 
     static void p04_oneToFourOutputs(Checks checks) {
         for (int many = 1; many <= 4; many++) {
-            taken(checks, many + " outputs", Row.under(0).spends(0, 0).pays(Arrays.copyOf(new int[] {1, 2, 3, 4}, many)));
+            taken(checks, many + " outputs",
+                    Row.under(0).spends(0, 0).pays(Arrays.copyOf(new int[] {1, 2, 3, 4}, many)));
         }
     }
 
@@ -273,7 +275,8 @@ public final class Promise04Test {
             taken(checks, "amount 999999999 at " + at, pays(at, 999999999));
             taken(checks, "amount 1000000000 at " + at, pays(at, 1000000000));
         }
-        taken(checks, "four of the highest", Row.under(0).spends(0, 0).pays(1000000000, 1000000000, 1000000000, 1000000000));
+        taken(checks, "four of the highest",
+                Row.under(0).spends(0, 0).pays(1000000000, 1000000000, 1000000000, 1000000000));
     }
 
     static void p04_amountAbove1000000000(Checks checks) {

@@ -356,6 +356,25 @@ public final class Promise08ClosedTest {
         checks.same("it is liked", 1, node.look(others[next].id(), 3));
     }
 
+    /** The favourite that is rejected had not been the first one of its set. */
+    static void p08_favouriteBehindARejectionMayBeTheFirstThatJoined(Checks checks) {
+        SnowNode node = Nodes.quick(1, 2);
+        Row first = Nodes.spend(1, 1000000);
+        Row gone = Row.under(0).spends(0, 1, 0, 0).pays(2000000);
+        Row third = Nodes.spend(1, 999999, 1);
+        Row winner = Nodes.spend(0, 999999, 1);
+        Nodes.takeAll(node, first, gone, third, winner);
+        for (int i = 0; i < 4; i++) {
+            node.poll();
+        }
+        Nodes.say(node, 1, true);
+        Nodes.set(checks, node, 0, 1, 3, gone, gone, 1);
+        Nodes.say(node, 3, true);
+        Nodes.win(node, Row.under(winner.id()).spends(winner.id(), 1).pays(1));
+        Nodes.state(checks, node, "the old favourite", REJECTED, gone);
+        Nodes.set(checks, node, 0, 1, 3, first, gone, 0);
+    }
+
     /** One that is rejected and was not the favourite leaves favourite and run. */
     static void p08_rejectedOneThatWasNoFavourite(Checks checks) {
         SnowNode node = Nodes.quick(1, 3);

@@ -102,6 +102,26 @@ public final class Promise13Test {
         Nodes.list(checks, node, 0, b.id(), a.id());
     }
 
+    /** The lists follow when the favourite changes, though they were asked before. */
+    static void p13_parentOfOneThatIsStrongNoMore(Checks checks) {
+        SnowNode node = Nodes.quick(9, 9);
+        Row parent = Nodes.spend(0, 1000000);
+        Row child = Nodes.beside(1, parent.id());
+        Row rival = Nodes.spend(1, 1, 999999);
+        Nodes.takeAll(node, parent, child, rival);
+        Nodes.list(checks, node, 0, child.id());
+        node.poll();
+        node.poll();
+        Nodes.say(node, node.poll(), true);
+        Nodes.list(checks, node, 0, rival.id(), parent.id());
+        Nodes.say(node, 1, true);
+        Nodes.list(checks, node, 0, rival.id(), parent.id());
+        Row grandchild = Row.under(child.id()).spends(child.id(), 0).pays(1000000);
+        Nodes.win(node, grandchild);
+        checks.same("query of the rival", 0, node.query(rival.id()));
+        Nodes.list(checks, node, 0, grandchild.id());
+    }
+
     /** Only its own children count: a grandparent of a strong one has a strong child on the way. */
     static void p13_parentsInAChain(Checks checks) {
         SnowNode node = Nodes.quick(1, 1);

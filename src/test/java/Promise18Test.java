@@ -97,6 +97,19 @@ public final class Promise18Test {
         }
     }
 
+    static void p18_roundWithoutAWinnerOfAllColours(Checks checks) {
+        for (int rule = 0; rule <= 2; rule++) {
+            for (int colours = 2; colours <= 8; colours++) {
+                SnowNode node = begun(rule, 1, 1);
+                node.begin(3, rule, colours);
+                node.votes(3, 0, 2);
+                node.votes(3, colours - 1, 2);
+                checks.due("round(3) of " + colours, false, () -> node.round(3));
+                Nodes.choice(checks, node, 3, NONE, 0, 0, 0);
+            }
+        }
+    }
+
     static void p18_votesOfTwoColoursDoNotWinTogether(Checks checks) {
         SnowNode node = begun(0, 1, 1);
         node.votes(3, 0, 2);

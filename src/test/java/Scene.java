@@ -18,11 +18,9 @@ final class Scene {
     /** Poll 0 and 2 were won; these are open, with a yes each and with a no for the second. */
     static final int POLL_LOST = 1;
     static final int POLL_OPEN = 3;
-    static final int CALLS_MOST = 512;
 
     private final List<Object> answers = new ArrayList<Object>();
     private final List<String> names = new ArrayList<String>();
-    private int calls = 0;
     final SnowNode node;
 
     Scene() {
@@ -49,7 +47,6 @@ final class Scene {
         node.begin(7, 2, 8);
         Nodes.rounds(node, 7, 2, 7);
         node.votes(7, 7, 1);
-        calls = 100;
     }
 
     /** Both are asked everything, at once and behind some calls more; one was asked what is refused. */
@@ -57,6 +54,7 @@ final class Scene {
         for (int later = 0; later < 2; later++) {
             Scene plain = new Scene();
             Scene asked = new Scene();
+            asked.isAsTold(checks);
             refused.accept(asked.node);
             for (Scene scene : new Scene[] {plain, asked}) {
                 if (later == 1) {
@@ -65,14 +63,27 @@ final class Scene {
                 scene.readAll();
             }
             for (int i = 0; i < plain.answers.size(); i++) {
-                checks.same(plain.names.get(i) + " behind what was refused", plain.answers.get(i), asked.answers.get(i));
+                checks.same(plain.names.get(i) + " behind what was refused", plain.answers.get(i),
+                        asked.answers.get(i));
             }
-            checks.same("the calls are few enough", true, asked.calls < CALLS_MOST - 40);
         }
     }
 
+    private void isAsTold(Checks checks) {
+        Nodes.state(checks, node, "WON", Nodes.ACCEPTED, WON);
+        Nodes.state(checks, node, "LOST", Nodes.REJECTED, LOST);
+        Nodes.state(checks, node, "CHILD", Nodes.ACCEPTED, CHILD);
+        Nodes.state(checks, node, "OPEN", Nodes.HELD, OPEN);
+        Nodes.state(checks, node, "LATE", Nodes.WAITING, LATE);
+        Nodes.state(checks, node, "UNSOUND", Nodes.BAD, UNSOUND);
+        checks.same("polls open", 2, node.count(6));
+        checks.same("bytes on the tape", 8, node.count(9));
+        Nodes.choice(checks, node, 0, 1, 1, 0, 2);
+        Nodes.choice(checks, node, 1, 2, 1, 1, 0);
+        Nodes.choice(checks, node, 7, 7, 1, 0, 1);
+    }
+
     private void ask(String name, Checks.Call call) {
-        calls++;
         names.add(name);
         answers.add(Checks.answerOf(call));
     }
@@ -96,7 +107,6 @@ final class Scene {
         ask("votes(0, 0, 1)", () -> Nodes.vote(node, 0, 0, 1));
         ask("votes(0, 1, 1)", () -> Nodes.vote(node, 0, 1, 1));
         ask("round(0)", () -> node.round(0));
-        calls += 5;
     }
 
     private void readAll() {
