@@ -410,6 +410,7 @@ public final class Promise08ClosedTest {
         checks.same("the answer", 1, Nodes.say(node, 1, true));
         checks.same("count(8)", 2, node.count(8));
         checks.same("count(6)", 0, node.count(6));
+        Nodes.state(checks, node, "the loser, for good", REJECTED, SECOND);
         checks.same("its chit", 0, node.look(SECOND.id(), 2));
         checks.same("its confidence", 0, node.look(SECOND.id(), 1));
         checks.same("confidence of the genesis", 1, node.look(0, 1));
